@@ -994,7 +994,7 @@ public final class TypeLoom {
         static final int NAMED = 7; // and the number of the type
 
         static final int KIDS = 3;
-        private static final int FIRST_ROOM = 2048;
+        private static final int FIRST_ROOM = 512;
         // Three hundred tokens with types of 120 parts stay far below this.
         private static final int MOST = 1 << 17;
         private static final int VERY_MANY = 1000000;
@@ -1022,8 +1022,15 @@ public final class TypeLoom {
         }
 
         int make(int tag, int first, int second, int third) {
-            if (used >= room) {
-                grow();
+            if (used >= room && room < MOST) {
+                room = room * 2;
+                tags = Arrays.copyOf(tags, room);
+                kids = Arrays.copyOf(kids, room * KIDS);
+                links = Arrays.copyOf(links, room);
+                seen = Arrays.copyOf(seen, room);
+                notes = Arrays.copyOf(notes, room);
+                order = Arrays.copyOf(order, room);
+                path = Arrays.copyOf(path, room);
             }
             if (used >= room) {
                 return NONE;
@@ -1054,20 +1061,6 @@ public final class TypeLoom {
 
         int function(int from, int to) {
             return make(FUNCTION, from, to, NONE);
-        }
-
-        private void grow() {
-            if (room >= MOST) {
-                return;
-            }
-            room = room * 2;
-            tags = Arrays.copyOf(tags, room);
-            kids = Arrays.copyOf(kids, room * KIDS);
-            links = Arrays.copyOf(links, room);
-            seen = Arrays.copyOf(seen, room);
-            notes = Arrays.copyOf(notes, room);
-            order = Arrays.copyOf(order, room);
-            path = Arrays.copyOf(path, room);
         }
 
         /** How many nodes there are; cut takes the nodes behind such a number away. */
@@ -1214,11 +1207,6 @@ public final class TypeLoom {
             return deep + 1;
         }
 
-        private void gatherAlone(int root) {
-            begin();
-            gather(root);
-        }
-
         /** What is unknown in the type, and was not gathered in this round, becomes a mark. */
         void markUnknown(int root) {
             int from = gathered;
@@ -1232,7 +1220,8 @@ public final class TypeLoom {
 
         /** A type that can be fitted without a change of this one; marks become unknown or stay. */
         int copy(int root, boolean marksStay) {
-            gatherAlone(root);
+            begin();
+            gather(root);
             for (int n = 0; n < gathered; n++) {
                 int twin = twinOf(order[n], marksStay);
                 notes[order[n]] = twin;
@@ -1246,7 +1235,7 @@ public final class TypeLoom {
                 return node;
             }
             if (tag == MARK) {
-                return unknown();
+                return make(UNKNOWN, NONE, NONE, NONE);
             }
             int first = noteOfKid(node, 0);
             int second = noteOfKid(node, 1);
@@ -1262,7 +1251,8 @@ public final class TypeLoom {
 
         /** How many parts the type has when it is told in full; a great number stays a great one. */
         int partsOf(int root) {
-            gatherAlone(root);
+            begin();
+            gather(root);
             for (int n = 0; n < gathered; n++) {
                 int node = order[n];
                 int parts = 1 + noteOfKid(node, 0) + noteOfKid(node, 1) + noteOfKid(node, 2);
@@ -1272,7 +1262,8 @@ public final class TypeLoom {
         }
 
         int marksOf(int root) {
-            gatherAlone(root);
+            begin();
+            gather(root);
             int marks = 0;
             for (int n = 0; n < gathered; n++) {
                 int tag = tags[order[n]];
@@ -1283,7 +1274,8 @@ public final class TypeLoom {
 
         /** What the document calls the order of a type. */
         int rankOf(int root) {
-            gatherAlone(root);
+            begin();
+            gather(root);
             for (int n = 0; n < gathered; n++) {
                 int node = order[n];
                 int first = noteOfKid(node, 0) + (tags[node] == FUNCTION ? 1 : 0);
@@ -2013,7 +2005,8 @@ public final class TypeLoom {
     /** The paper, and how a type is written on it. */
     private static final class Writer {
         private static final int MOST = 400;
-        private static final int PENDING = 4096;
+        // A type of 400 bytes has fewer parts and bytes together.
+        private static final int PENDING = 1024;
         private static final int VERY_LONG = 1000000;
 
         private final Types types;
