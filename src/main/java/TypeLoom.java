@@ -545,13 +545,14 @@ public final class TypeLoom {
             bs[size] = b;
             cs[size] = c;
             types[size] = Types.NONE;
-            setSpan(size, 0, -1);
+            firsts[size] = 0;
+            lasts[size] = -1;
             size++;
             return size - 1;
         }
 
         void setSpan(int step, int first, int last) {
-            if (step >= 0 && step < MOST) {
+            if (has(step)) {
                 firsts[step] = first;
                 lasts[step] = last;
             }

@@ -27,6 +27,13 @@ public final class FormTest {
         check.programError(2, "def a = @letx;");
         check.typeOfLast("def truex = 1; def a = truex;", "int");
         check.compiled("type t = A|B;");
+        check.compiled("type z0 = Z | A09az | Zz; def az90 = 1; def za = 9009;");
+        check.programError(1, "def a = @`a;");
+        check.programError(1, "def a = @{;");
+        check.programError(1, "def a = @[;");
+        check.programError(1, "def a = @/;");
+        check.programError(1, "type t 'a 'z @'{ = B;");
+        check.programError(1, "type t 'a 'z @'` = B;");
         check.compiled("def\n\n a\n=\n1 ;\n\n");
         check.compiled("  def a=1;def b=a;");
         check.programError(1, "def a =@\t1;");
@@ -182,6 +189,14 @@ public final class FormTest {
         check.programError(1, "def x = " + "if ".repeat(13) + "@true;");
         check.programError(1, "def x = " + "fun x -> ".repeat(12) + "if @x then x else x;");
         check.programError(1, "def x = " + "if true then 1 else ".repeat(12) + "(@1);");
+        check.programError(1, "def x = " + "fun y -> ".repeat(11) + "if true then (@y) else y;");
+        check.programError(1, "def x = " + "fun y -> ".repeat(11) + "if (@true) then y else y;");
+        check.programError(1, "def x = " + "fun y -> ".repeat(11) + "let z = (@y) in y;");
+        check.programError(1, "def x = " + "fun y -> ".repeat(11) + "let z = y in (@y);");
+        check.programError(1, "def x = " + "fun y -> ".repeat(11) + "case (@y) of Nil -> y end;");
+        check.programError(1, "def x = " + "fun y -> ".repeat(11) + "case y of Nil -> (@y) end;");
+        check.programError(1, "def x = " + "fun y -> ".repeat(11) + "case y of Nil -> y | Cons a b -> (@y) end;");
+        check.compiled("def x = " + "fun y -> ".repeat(11) + "case y of Nil -> y | Cons a b -> y end;");
         check.compiled("def x = " + "if true then 1 else ".repeat(12) + "1;");
         check.programError(1, "def x = " + "case ".repeat(13) + "@1;");
         check.programError(1, "def x = " + "case Nil of Nil -> ".repeat(12) + "case @Nil of Nil -> 1;");
