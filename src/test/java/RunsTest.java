@@ -61,6 +61,22 @@ public final class RunsTest {
         check.compiled("def f = fun" + " x".repeat(50) + " -> 1; def g = (fun" + " x".repeat(110) + " -> 1)"
                 + " f".repeat(110) + ";");
         doubled(check);
+        wideAndDeep(check);
+    }
+
+    private static void wideAndDeep(Check check) {
+        String wide = "f";
+        for (int n = 0; n < 6; n++) {
+            wide = "(" + wide + "," + wide + ")";
+        }
+        TypeLoom loom = check.compiled("def f = fun" + " x".repeat(50) + " -> 1; def k = fun a" + " x".repeat(55) + " -> a;");
+        check.answer(loom, "fst (true, " + wide + ")", "bool");
+        check.questionError(loom, 9, "@" + wide);
+        String deep = "k (".repeat(11) + "1" + ")".repeat(11);
+        check.answer(loom, "fst (true, " + deep + ")", "bool");
+        check.questionError(loom, 9, "@" + deep);
+        check.questionError(loom, 5, "if true then " + deep + " else @" + deep.replace("1", "true"));
+        check.questionError(loom, 9, "@if true then " + deep + " else " + deep);
     }
 
     /** A name that a fun or choice binds can have a type of very many parts. */
