@@ -75,6 +75,7 @@ public final class TypesTest {
         check.programError(5, "def x = fun y -> let y = y in (y 1, y @true);");
         check.programError(5, "def x = fun y -> let z = y in fun y -> (z + 1, if @z then 1 else 2);");
         check.programError(5, "def x = fun y -> let z = fun y -> y in let w = y in (w + 1, if @w then 1 else 2);");
+        check.programError(5, "def x = fun y -> let z = y in fun y -> let w = z in (w + 1, if @w then 1 else 2);");
         check.programError(5, "def x = case Cons (fun z -> z) Nil of Cons f t -> (f 1, f @true) end;");
         check.programError(5, "def x = fun f -> (fun y -> let g = f y in (g + 1, if @g then 1 else 2)) 1;");
         check.typeOfLast("def x = Nil; def y = (Cons 1 x, Cons true x);", "list int * list bool");
