@@ -87,6 +87,11 @@ public final class AskTest {
         TypeLoom loom = new TypeLoom();
         check.answer(loom, "fun" + " x".repeat(66) + " -> true", letters(66) + "bool");
         check.same("400 bytes", loom.count(4), 400);
+        tooManyBytes(check);
+    }
+
+    private static void tooManyBytes(Check check) {
+        TypeLoom loom = new TypeLoom();
         check.answer(loom, "1", "int");
         check.questionError(loom, 9, " \n@fun" + " x".repeat(66) + " -> (Nil)");
         check.same("the paper stays", Check.paper(loom), "int");

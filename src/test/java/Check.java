@@ -1,10 +1,18 @@
+import java.io.IOException;
+import java.nio.file.Files;
+import java.nio.file.Path;
+import java.util.ArrayList;
+import java.util.List;
 import java.util.concurrent.Callable;
 
 /** Compares answers with those that are due, counts the wrong ones, and speaks to a TypeLoom in texts. */
 final class Check {
     private static final String ERROR_HERE = "@";
+    private static final Path DOCUMENT = Path.of("..", "shared", "DOC.md");
 
     private final String name;
+    private final List<String> sentences = new ArrayList<>();
+    private String sentence = "";
     private int wrong;
     private int all;
 
@@ -12,20 +20,29 @@ final class Check {
         this.name = name;
     }
 
+    /** Names the sentence of the document that the checks from here on hold, in the document's words. */
+    void holds(String words) {
+        sentence = words;
+        sentences.add(words);
+    }
+
     void same(String what, long got, long due) {
         all++;
         if (got != due) {
-            wrong++;
-            System.out.println(name + ": " + what + " answered " + got + ", due is " + due);
+            wrong(what + " answered " + got + ", due is " + due);
         }
     }
 
     void same(String what, String got, String due) {
         all++;
         if (!got.equals(due)) {
-            wrong++;
-            System.out.println(name + ": " + what + " answered \"" + got + "\", due is \"" + due + "\"");
+            wrong(what + " answered \"" + got + "\", due is \"" + due + "\"");
         }
+    }
+
+    private void wrong(String what) {
+        wrong++;
+        System.out.println(name + ": " + what + (sentence.isEmpty() ? "" : "\n    the document: " + sentence));
     }
 
     void isTrue(String what, boolean got) {
@@ -45,6 +62,16 @@ final class Check {
             got = e.getClass().getName();
         }
         same(what, got, due.getName());
+    }
+
+    /** The call has to be refused as having no such index. */
+    void noSuch(String what, Callable<?> call) {
+        throwsThis(what, IndexOutOfBoundsException.class, call);
+    }
+
+    /** The call has to be refused as writing more than 400 bytes. */
+    void tooLong(String what, Callable<?> call) {
+        throwsThis(what, IllegalStateException.class, call);
     }
 
     /** Compiles a text without an error. */
@@ -88,9 +115,25 @@ final class Check {
     }
 
     void end() {
+        sentencesStandInTheDocument();
         System.out.println(name + ": " + (all - wrong) + " of " + all + " answers are as due");
         if (wrong != 0) {
             System.exit(1);
+        }
+    }
+
+    /** What a test says that it holds has to be what the document says, blanks and line ends aside. */
+    private void sentencesStandInTheDocument() {
+        String document;
+        try {
+            document = Files.readString(DOCUMENT).replaceAll("\\s+", " ");
+        } catch (IOException e) {
+            System.out.println(name + ": the document is not there to look for the sentences");
+            return;
+        }
+        sentence = "";
+        for (String words : sentences) {
+            same("the document has \"" + words + "\"", document.contains(words) ? 1 : 0, 1);
         }
     }
 
@@ -123,7 +166,8 @@ final class Check {
 
     static String paper(TypeLoom loom) {
         StringBuilder text = new StringBuilder();
-        for (int k = 0; k < loom.count(4); k++) {
+        int size = loom.count(4);
+        for (int k = 0; k < size; k++) {
             text.append((char) loom.byteAt(k));
         }
         return text.toString();
@@ -132,9 +176,5 @@ final class Check {
     static String written(TypeLoom loom, int def) {
         loom.write(def);
         return paper(loom);
-    }
-
-    static String repeat(String text, int times) {
-        return text.repeat(times);
     }
 }

@@ -13,8 +13,8 @@ public final class WriteAtTest {
 
     /** Below each byte of the text stands the letter of the type that is due there, or a dot. */
     private static void places(Check check, String text, String letters, String... types) {
-        TypeLoom loom = check.compiled(text);
         for (int place = 0; place < text.length(); place++) {
+            TypeLoom loom = check.compiled(text);
             int due = letters.charAt(place) == '.' ? -1 : letters.charAt(place) - 'A';
             String what = "writeAt " + place + " of " + text;
             int here = place;
