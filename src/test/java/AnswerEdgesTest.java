@@ -231,7 +231,7 @@ public final class AnswerEdgesTest {
         order(check, "(int*(int->int))->int", 2);
         order(check, "list (int->int)->int", 2);
         order(check, "int->list ((int->int)->int)", 2);
-        order(check, "(" .repeat(11) + "int" + "->int)".repeat(11) + "->int", 12);
+        order(check, "(".repeat(11) + "int" + "->int)".repeat(11) + "->int", 12);
     }
 
     private static void order(Check check, String form, int due) {

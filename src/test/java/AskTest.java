@@ -12,6 +12,9 @@ public final class AskTest {
     }
 
     private static void withoutProgram(Check check) {
+        check.holds("Reads the tape as an expression, in which all of the program is known (without a program what"
+                + " is known at the beginning alone), and writes its type; the paper stays if there is an error, or"
+                + " more than 400 bytes would be needed.");
         TypeLoom loom = new TypeLoom();
         check.answer(loom, "1", "int");
         check.answer(loom, "\n fun x -> x ", "'a -> 'a");
@@ -28,6 +31,9 @@ public final class AskTest {
     }
 
     private static void withProgram(Check check) {
+        check.holds("Reads the tape as an expression, in which all of the program is known (without a program what"
+                + " is known at the beginning alone), and writes its type; the paper stays if there is an error, or"
+                + " more than 400 bytes would be needed.");
         TypeLoom loom = check.compiled("type o 'a = N | S 'a; def id = fun x -> x; def fst = fun x -> S x;"
                 + " def g : 'a -> 'b -> 'a = fun x y -> x;");
         check.answer(loom, "id", "'a -> 'a");
@@ -43,6 +49,8 @@ public final class AskTest {
     }
 
     private static void errors(Check check) {
+        check.holds("Returns 0, or the error, 1, 2, 5, 6, 7 or 9 (9 at its first token, if the type would need more"
+                + " than 400 bytes).");
         TypeLoom loom = check.compiled("type o 'a = N | S 'a; def id = fun x -> x;");
         check.questionError(loom, 1, "@");
         check.questionError(loom, 1, "  @");
@@ -70,6 +78,9 @@ public final class AskTest {
     }
 
     private static void errorsChangeNothing(Check check) {
+        check.holds("Reads the tape as an expression, in which all of the program is known (without a program what"
+                + " is known at the beginning alone), and writes its type; the paper stays if there is an error, or"
+                + " more than 400 bytes would be needed.");
         TypeLoom loom = check.compiled("def id = fun x -> x;");
         loom.write(0);
         check.questionError(loom, 2, "@y");
@@ -84,6 +95,8 @@ public final class AskTest {
 
     /** Each name of a fun takes 6 bytes. */
     private static void fourHundredBytes(Check check) {
+        check.holds("Returns 0, or the error, 1, 2, 5, 6, 7 or 9 (9 at its first token, if the type would need more"
+                + " than 400 bytes).");
         TypeLoom loom = new TypeLoom();
         check.answer(loom, "fun" + " x".repeat(66) + " -> true", letters(66) + "bool");
         check.same("400 bytes", loom.count(4), 400);
@@ -91,6 +104,8 @@ public final class AskTest {
     }
 
     private static void tooManyBytes(Check check) {
+        check.holds("Returns 0, or the error, 1, 2, 5, 6, 7 or 9 (9 at its first token, if the type would need more"
+                + " than 400 bytes).");
         TypeLoom loom = new TypeLoom();
         check.answer(loom, "1", "int");
         check.questionError(loom, 9, " \n@fun" + " x".repeat(66) + " -> (Nil)");
@@ -112,6 +127,9 @@ public final class AskTest {
 
     /** A question leaves the types of the program as they were. */
     private static void nothingIsLearned(Check check) {
+        check.holds("Reads the tape as an expression, in which all of the program is known (without a program what"
+                + " is known at the beginning alone), and writes its type; the paper stays if there is an error, or"
+                + " more than 400 bytes would be needed.");
         TypeLoom loom = check.compiled("def f = fun x y -> x; def n = Nil; def p = fun x -> let g = fun z -> z in g x;");
         long digest = loom.digest();
         check.answer(loom, "(f 1 n, Cons true n)", "int * list bool");

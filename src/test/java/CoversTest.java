@@ -4,6 +4,8 @@ public final class CoversTest {
 
     public static void main(String[] args) {
         Check check = new Check("CoversTest");
+        check.holds("Writes the most general type that both types cover (all marks of the one are others than those"
+                + " of the other one), likewise.");
         both(check, "int", "int", true, true, "int");
         both(check, "int", "bool", false, false, NONE);
         both(check, "'a", "int", true, false, "int");
@@ -54,6 +56,8 @@ public final class CoversTest {
     }
 
     private static void nothingChanges(Check check) {
+        check.holds("Returns whether the type of a becomes that of b, if other types are put in the places of its"
+                + " marks (the same one for the same mark).");
         TypeLoom loom = check.compiled("def x = fun a b -> a; def y = fun a -> a + 1; def z = fun a -> (a, a);");
         for (int n = 0; n < 3; n++) {
             check.isFalse("covers", loom.covers(1, 0));
@@ -72,6 +76,7 @@ public final class CoversTest {
 
     /** The first type has 16 marks in pairs, of 73 bytes without them: with t bytes each, 77 + 17 * t in all. */
     private static void longMeeting(Check check) {
+        check.holds("Throws `IllegalStateException` if there would be more than 400");
         TypeLoom loom = check.compiled("type o 'a = O; def x = fun a -> let b = (a, a) in let c = (b, b) in"
                 + " let d = (c, c) in (d, d); def y : list (list (o int)) -> 'b = y;"
                 + " def z : list (list (o bool)) -> 'b = z;");
@@ -87,6 +92,7 @@ public final class CoversTest {
     }
 
     private static void refuses(Check check) {
+        check.holds("Throws `IndexOutOfBoundsException` if there is no such definition");
         TypeLoom loom = check.compiled("def x = 1; def y = fun a -> a;");
         loom.write(1);
         int[][] wrong = {{2, 0}, {0, 2}, {-1, 0}, {0, -1}, {Integer.MIN_VALUE, 1}, {1, Integer.MAX_VALUE}};

@@ -240,7 +240,13 @@ public final class DefinitionEdgesTest {
         check.holds(FIT);
         String[] types = {"int", "bool", "u", "o int", "o bool", "list int", "p int bool", "p bool int", "int*int",
             "int*bool", "bool*int", "int->int", "int->bool", "bool->int", "o (o int)", "q int int int", "q int int bool",
-            "q int bool int", "q bool int int", "(int->int)->int", "int->int->int", "(int*int)*int", "int*(int*int)"};
+            "q int bool int", "q bool int int", "(int->int)->int", "int->int->int", "(int*int)*int", "int*(int*int)",
+            "(int*bool)*(int*bool)", "(int*bool)*(bool*int)", "(bool*int)*(int*bool)", "(int->int)->int->int",
+            "(int->int)->int->bool", "(int->bool)->int->int", "p (o int) (o int)", "p (o int) (o bool)",
+            "p (o bool) (o int)", "q (o int) (o int) (o int)", "q (o int) (o int) (o bool)", "q (o int) (o bool) (o int)",
+            "q (o bool) (o int) (o int)", "((int*int)*(int*int))*((int*int)*(int*int))",
+            "((int*int)*(int*int))*((int*int)*(int*bool))", "((int*int)*(int*bool))*((int*int)*(int*int))",
+            "o (o (o int))", "o (o (o bool))"};
         for (int one = 0; one < types.length; one++) {
             for (int other = 0; other < types.length; other++) {
                 String text = TYPES + "def x:" + types[one] + "=x;def y:" + types[other] + "=y;def z=x=";
@@ -287,6 +293,16 @@ public final class DefinitionEdgesTest {
         check.programError(5, "def x=fun a b c->(a=b,(b=c,(a=1,c=@true)));");
         check.programError(5, "def x=fun a b c->((a,b)=(b,c),(a+1,if @c then 1 else 2));");
         check.typeOfLast("def x=fun f g a->(f a=g a,f=g);", "('a -> 'b) -> ('a -> 'b) -> 'a -> bool * bool");
+        // What is unknown stands beside parts that do not fit.
+        check.programError(5, "def x=fun a->((1,2),a)=@((1,true),3);");
+        check.programError(5, "def x=fun a->((1,2),3)=@((1,true),a);");
+        check.programError(5, "def x=fun a->(a,(1,2))=@(3,(1,true));");
+        check.programError(5, "def x=fun a->(3,(1,2))=@(a,(1,true));");
+        check.programError(5, "def x=fun a b->((1,2),(a,b))=@((1,true),((2,3),4));");
+        check.programError(5, "def x=fun a b->((1,2),((a,b),3))=@((1,2),((4,5),true));");
+        check.typeOfLast("def x=fun a b->(((1,2),a)=((1,2),(3,b)),b);", "int * 'a -> 'a -> bool * 'a");
+        check.typeOfLast("def x=fun a b->((a,(1,b))=((true,2),(1,(a,a))),1);",
+                "bool * int -> (bool * int) * (bool * int) -> bool * int");
     }
 
     private static void orderInADefinition(Check check) {

@@ -23,6 +23,7 @@ public final class DefinitionErrorsTest {
     }
 
     private static void numberAndNames(Check check) {
+        check.holds("A definition: Error 4 (at def): a 25th one. Error 3 (at the name): a definition ahead has it.");
         check.same("definitions", check.compiled(definitions(0, 24)).count(2), 24);
         check.programError(4, definitions(0, 24) + "@def d24=1;");
         check.programError(4, definitions(0, 24) + "@def d0=y;");
@@ -33,6 +34,9 @@ public final class DefinitionErrorsTest {
     }
 
     private static void namesThatAreNotKnown(Check check) {
+        check.holds("name: that of the nearest let, fun or choice around that binds it (of a fun the last one with"
+                + " this name), otherwise that of the definition (its own, or one ahead); what is general in it is"
+                + " unknown anew; Error 2 (at the name): there is none (definitions behind are not known).");
         check.programError(2, "def x = @y;");
         check.programError(2, "def x = @y; def y = 1;");
         check.programError(2, "def x = 1 + (fun z -> z) @y;");
@@ -48,6 +52,8 @@ public final class DefinitionErrorsTest {
     }
 
     private static void ownName(Check check) {
+        check.holds("Then the type of its expression is found, where its own name has an unknown type, the same one"
+                + " in all of it; Error 5 (at the first token of the expression): both do not fit.");
         check.typeOfLast("def f = fun x -> f x;", "'a -> 'b");
         check.programError(5, "def f = @fun x -> f;");
         check.programError(5, "def f = @(f, f);");
@@ -60,6 +66,9 @@ public final class DefinitionErrorsTest {
     }
 
     private static void fitting(Check check) {
+        check.holds("Two types fit, if what is unknown in them can be made known, so that both are the same; it is"
+                + " known then in all that was found so far; an unknown type does not fit a type in which it stands"
+                + " itself (but itself).");
         check.programError(5, "def x = 1 @2;");
         check.programError(5, "def x = fst @1;");
         check.programError(5, "def x = fst (1, 2) @3;");
@@ -91,6 +100,9 @@ public final class DefinitionErrorsTest {
     }
 
     private static void choices(Check check) {
+        check.holds("case e of ..: that of e is found; then for each choice: Error 2 (at the capital): it is not"
+                + " known; Error 7 (at it): it stood in a choice of this case ahead; Error 6 (at it): more or fewer"
+                + " names than the constructor has parts;");
         check.programError(7, "def x = case Nil of Nil -> 1 | @Nil -> 2 end;");
         check.programError(7, "def x = case Nil of Cons a b -> 1 | Nil -> 1 | @Cons -> 2 end;");
         check.compiled("def x = case Nil of Nil -> case Nil of Nil -> 1 end | Cons a b -> 2 end;");
@@ -109,6 +121,8 @@ public final class DefinitionErrorsTest {
     }
 
     private static void formThatIsTooGeneral(Check check) {
+        check.holds("Error 8 (at the first token of the form): the type that was found does not fit the form, if"
+                + " each mark in it is a type of its own that fits nothing else.");
         check.programError(8, "def x : @bool = 1;");
         check.programError(8, "def f : @'a -> 'a = fun x -> x + 1;");
         check.programError(8, "def f : @'a -> 'b = fun x -> x;");
@@ -127,6 +141,8 @@ public final class DefinitionErrorsTest {
 
     /** A type may have 120 parts: a function from n int to int has 2 * n + 1, a pair one more than both sides. */
     private static void partsOfTypes(Check check) {
+        check.holds("Error 9 (at the name): the type has more than 120 parts (int, bool, marks, what is unknown,"
+                + " names, *, ->, each as often as it stands there).");
         String names = " x".repeat(59);
         check.same("parts", check.compiled("def f = fun" + names + " -> 1;").measure(0, 0), 119);
         check.programError(9, "def @f = fun" + " x".repeat(60) + " -> 1;");
@@ -148,6 +164,9 @@ public final class DefinitionErrorsTest {
     }
 
     private static void orderOfErrors(Check check) {
+        check.holds("Only if there is no error of form, the meaning is looked at, item by item, in each in the order"
+                + " told below: the first error is told (of two at one place that which is told first here; a part"
+                + " too many ahead of what is in it).");
         check.programError(5, "def x = 1 + @true + y;");
         check.programError(2, "def x = 1 + @y + true;");
         check.programError(5, "def x = (@true + 1) + y;");
@@ -166,6 +185,7 @@ public final class DefinitionErrorsTest {
     }
 
     private static void programIsGone(Check check) {
+        check.holds("Compiles the tape as a program. The program that was there is gone in any case.");
         TypeLoom loom = check.compiled("type t = A; def x = 1;");
         loom.write(0);
         check.same("a wrong program", Check.compile(loom, "def y = z;"), 2);

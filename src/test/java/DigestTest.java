@@ -18,6 +18,10 @@ public final class DigestTest {
     }
 
     private static void empty(Check check) {
+        check.holds("A number d starts with 409; for each of the following numbers x, d becomes d * 31 + x, which"
+                + " wraps around as a 64-bit integer: what count() tells, in its order; for each definition what"
+                + " measure() tells, in its order, and how often it uses each one, in their order; the bytes of the"
+                + " paper.");
         TypeLoom loom = new TypeLoom();
         check.same("a new object", loom.digest(), over(0, 0, 0, 0, 0));
         loom.feed(1, 2, 3, 4, 5);
@@ -28,6 +32,10 @@ public final class DigestTest {
     }
 
     private static void countsAndPaper(Check check) {
+        check.holds("A number d starts with 409; for each of the following numbers x, d becomes d * 31 + x, which"
+                + " wraps around as a 64-bit integer: what count() tells, in its order; for each definition what"
+                + " measure() tells, in its order, and how often it uses each one, in their order; the bytes of the"
+                + " paper.");
         TypeLoom loom = check.compiled("type t = A | B | C; type u = D;");
         check.same("types alone", loom.digest(), over(2, 4, 0, 0, 0));
         loom.writeConstructor(0);
@@ -39,6 +47,10 @@ public final class DigestTest {
     }
 
     private static void measuresAndUses(Check check) {
+        check.holds("A number d starts with 409; for each of the following numbers x, d becomes d * 31 + x, which"
+                + " wraps around as a 64-bit integer: what count() tells, in its order; for each definition what"
+                + " measure() tells, in its order, and how often it uses each one, in their order; the bytes of the"
+                + " paper.");
         TypeLoom loom = check.compiled("def f = fun g x -> g (f g x);"
                 + " def a = f (fun x -> f (fun y -> y) x + 1) 3;");
         check.same("two definitions", loom.digest(),
@@ -46,6 +58,10 @@ public final class DigestTest {
     }
 
     private static void digestOfEverything(Check check) {
+        check.holds("A number d starts with 409; for each of the following numbers x, d becomes d * 31 + x, which"
+                + " wraps around as a 64-bit integer: what count() tells, in its order; for each definition what"
+                + " measure() tells, in its order, and how often it uses each one, in their order; the bytes of the"
+                + " paper.");
         TypeLoom loom = check.compiled("type t 'a = A 'a; def id = fun x -> x; def two = (id 1, id A); def z = z;");
         loom.write(1);
         String paper = "int * ('a -> t 'a)";

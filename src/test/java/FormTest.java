@@ -14,6 +14,7 @@ public final class FormTest {
     }
 
     private static void tokens(Check check) {
+        check.holds("The longest possible token is always read.");
         check.compiled("def abcdefgh = 1;");
         check.programError(1, "def @abcdefghi = 1;");
         check.programError(1, "def a = 1 @abcdefghi;");
@@ -56,6 +57,8 @@ public final class FormTest {
     }
 
     private static void items(Check check) {
+        check.holds("Error 1: the first token with which the tokens so far are not the beginning of a program (of"
+                + " ask: of an expression).");
         check.programError(1, "@1");
         check.programError(1, "@x = 1;");
         check.programError(1, "def @def = 1;");
@@ -85,6 +88,8 @@ public final class FormTest {
     }
 
     private static void forms(Check check) {
+        check.holds("Error 1: the first token with which the tokens so far are not the beginning of a program (of"
+                + " ask: of an expression).");
         check.compiled("def x : int = 1;");
         check.compiled("def x : (int) = 1;");
         check.compiled("def x : int * int = (1, 1);");
@@ -108,6 +113,8 @@ public final class FormTest {
     }
 
     private static void expressions(Check check) {
+        check.holds("Error 1: the first token with which the tokens so far are not the beginning of a program (of"
+                + " ask: of an expression).");
         check.programError(1, "def x = let @1 = 2 in 3;");
         check.programError(1, "def x = let y @2 in 3;");
         check.programError(1, "def x = let y = 2 @;");
@@ -158,6 +165,9 @@ public final class FormTest {
     }
 
     private static void endOfTape(Check check) {
+        check.holds("This includes a byte with which no token begins, a word, capital or number that is too long,"
+                + " the end of the tape (at its length), the first token of an expression or form whose depth would"
+                + " be 13, and the token that would be the 301st.");
         check.programError(1, "@");
         check.programError(1, "   @");
         check.programError(1, "\n@");
@@ -172,6 +182,7 @@ public final class FormTest {
     }
 
     private static void depth(Check check) {
+        check.holds("It may be at most 12.");
         check.compiled("def x = " + nested("(", "1", ")", 12) + ";");
         check.programError(1, "def x = " + "(".repeat(13) + "@1" + ")".repeat(13) + ";");
         check.programError(1, "def x = " + "(".repeat(13) + "@");
@@ -212,6 +223,7 @@ public final class FormTest {
     }
 
     private static void numberOfTokens(Check check) {
+        check.holds("A program has at most 300 tokens.");
         String odd = "def x = 1" + "+1".repeat(147) + ";";
         check.compiled(odd);
         check.programError(1, odd + "def@");
@@ -228,6 +240,9 @@ public final class FormTest {
     }
 
     private static void formGoesAheadOfMeaning(Check check) {
+        check.holds("Only if there is no error of form, the meaning is looked at, item by item, in each in the order"
+                + " told below: the first error is told (of two at one place that which is told first here; a part"
+                + " too many ahead of what is in it).");
         check.programError(1, "def x = y; def z = @;");
         check.programError(1, "type int = A; def x = 1@");
         check.programError(2, "def x = @y; def x = z;");

@@ -1,7 +1,17 @@
-/** Each sentence on the form of a text that names an edge: what may follow, depth, how many tokens. */
+/** Each sentence on the form of a text that names an edge: what may follow, depth, the number of tokens. */
 public final class GrammarEdgesTest {
-    private static final String FIRST_TOKEN =
-            "Error 1: the first token with which the tokens so far are not the beginning of a program (of ask: of an expression).";
+    private static final String FIRST_TOKEN = "Error 1: the first token with which the tokens so far are not the beginning"
+            + " of a program (of ask: of an expression).";
+    private static final String PRODUCTIONS_OF_ITEMS = "program = item { item } item = \"type\" name { mark } \"=\" capital"
+            + " { part } { \"|\" capital { part } } \";\" | \"def\" name [ \":\" form ] \"=\" expression \";\" form = pair"
+            + " [ \"->\" form ] pair = use [ \"*\" use ] use = mark | \"(\" form \")\" | name { part } part = mark | name |"
+            + " \"(\" form \")\"";
+    private static final String PRODUCTIONS_OF_EXPRESSIONS = "expression = \"let\" name \"=\" expression \"in\" expression |"
+            + " \"fun\" name { name } \"->\" expression | \"if\" expression \"then\" expression \"else\" expression | \"case\""
+            + " expression \"of\" choice { \"|\" choice } \"end\" | relation choice = capital { name } \"->\" expression"
+            + " relation = sum [ ( \"=\" | \"<\" ) sum ] sum = product { ( \"+\" | \"-\" ) product } product = call"
+            + " { \"*\" call } call = atom { atom } atom = number | name | capital | \"true\" | \"false\" | \"(\" expression"
+            + " [ \",\" expression ] \")\"";
     private static final String INCLUDES = "This includes a byte with which no token begins, a word, capital or number that"
             + " is too long, the end of the tape (at its length), the first token of an expression or form whose depth would"
             + " be 13, and the token that would be the 301st.";
@@ -180,6 +190,7 @@ public final class GrammarEdgesTest {
 
     private static void whatFollowsInItems(Check check) {
         check.holds(FIRST_TOKEN);
+        check.holds(PRODUCTIONS_OF_ITEMS);
         for (String[] row : ITEMS) {
             for (String token : TOKENS) {
                 follows(check, row[0], token, isIn(token, row[1]));
@@ -199,6 +210,7 @@ public final class GrammarEdgesTest {
 
     private static void whatFollowsInExpressions(Check check) {
         check.holds(FIRST_TOKEN);
+        check.holds(PRODUCTIONS_OF_EXPRESSIONS);
         for (String[] row : QUESTIONS) {
             for (String token : TOKENS) {
                 follows(check, "def x = " + row[0], token, isIn(token, row[1]));

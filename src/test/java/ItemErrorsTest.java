@@ -14,6 +14,8 @@ public final class ItemErrorsTest {
     }
 
     private static void headsOfTypes(Check check) {
+        check.holds("An item type, from left to right: Error 4 (at type): a 7th type of items. Error 3 (at the"
+                + " name): int, bool, list, or a type of an item ahead.");
         check.compiled(SIX_TYPES);
         check.programError(4, SIX_TYPES + "@type g=G;");
         check.programError(4, SIX_TYPES + "def x = 1; @type a=G;");
@@ -26,6 +28,7 @@ public final class ItemErrorsTest {
     }
 
     private static void marks(Check check) {
+        check.holds("Error 3 (at the mark): a mark twice; Error 4 (at the mark): a 4th one.");
         check.compiled("type t 'a 'b 'c = A;");
         check.programError(4, "type t 'a 'b 'c @'d = A;");
         check.programError(3, "type t 'a @'a = A;");
@@ -36,6 +39,8 @@ public final class ItemErrorsTest {
     }
 
     private static void constructors(Check check) {
+        check.holds("For each constructor: Error 3 (at the capital): a constructor that is known; Error 4 (at the"
+                + " capital): a 25th one, without Nil and Cons; Error 4 (at the part): a 4th part.");
         check.programError(3, "type t = A | @A;");
         check.programError(3, "type t = A | B int | @A int;");
         check.programError(3, "type t = A; type u = B | @A;");
@@ -53,6 +58,10 @@ public final class ItemErrorsTest {
     }
 
     private static void partsOfConstructors(Check check) {
+        check.holds("In its parts: Error 2 (at the mark): a mark that does not stand behind the name; Error 2 (at"
+                + " the name): a type that is not known (that of this item is); Error 6 (at the name): more or fewer"
+                + " parts than it has marks (0 for int and bool; a name as a part has none; looked at behind its"
+                + " parts).");
         check.compiled("type t = A int bool (list int);");
         check.programError(4, "type t = A int int int @int;");
         check.programError(4, "type t = A int int int @nope;");
@@ -79,6 +88,7 @@ public final class ItemErrorsTest {
     }
 
     private static void formsOfDefinitions(Check check) {
+        check.holds("If it has a form, this is looked at: errors 2 and 6 as above, but all marks are known there.");
         check.programError(2, "def x : @nope = 1;");
         check.programError(2, "def x : int -> list @nope = 1;");
         check.programError(6, "def x : @list = 1;");
@@ -93,6 +103,9 @@ public final class ItemErrorsTest {
 
     /** What stands in a name is looked at behind the name, and ahead of how many parts it has. */
     private static void orderOfErrors(Check check) {
+        check.holds("Only if there is no error of form, the meaning is looked at, item by item, in each in the order"
+                + " told below: the first error is told (of two at one place that which is told first here; a part"
+                + " too many ahead of what is in it).");
         check.programError(2, "def x : list int @nope = 1;");
         check.programError(6, "def x : list @list list = 1;");
         check.programError(2, "def x : @nope list = 1;");

@@ -12,6 +12,7 @@ public final class MeasureTest {
     }
 
     private static void counts(Check check) {
+        check.holds("Returns how many there are (0 to 2: 0 without a program).");
         TypeLoom loom = check.compiled("type t = A | B; def x = 1; type u 'a = C; def y = 2; def z = true;");
         int[] due = {2, 3, 3, 0, 0};
         for (int what = 0; what < due.length; what++) {
@@ -34,6 +35,7 @@ public final class MeasureTest {
     }
 
     private static void measures(Check check) {
+        check.holds("0 the parts of its type, 1 how many different marks stand in it, 2 its order:");
         measured(check, "int", 1, 0, 0);
         measured(check, "bool", 1, 0, 0);
         measured(check, "'a", 1, 1, 0);
@@ -67,6 +69,7 @@ public final class MeasureTest {
     }
 
     private static void measureRefuses(Check check) {
+        check.holds("Throws `IndexOutOfBoundsException` if there is no such definition, or what is not 0 to 2");
         TypeLoom loom = check.compiled("def x = 1;");
         int[][] wrong = {{1, 0}, {-1, 0}, {0, 3}, {0, -1}, {Integer.MAX_VALUE, 1}, {0, Integer.MIN_VALUE}};
         for (int[] pair : wrong) {
@@ -78,6 +81,7 @@ public final class MeasureTest {
     }
 
     private static void uses(Check check) {
+        check.holds("Returns how often the name of the definition b stands in the expression of a, and means it.");
         TypeLoom loom = check.compiled("def a = 1; def b = a + a; def c = fun x -> c (b + a) + x; def d = d;");
         int[][] due = {{0, 0, 0, 0}, {2, 0, 0, 0}, {1, 1, 1, 0}, {0, 0, 0, 1}};
         for (int user = 0; user < 4; user++) {
@@ -100,6 +104,7 @@ public final class MeasureTest {
 
     /** A name that a let, fun or choice binds does not mean the definition. */
     private static void usesMeanDefinitions(Check check) {
+        check.holds("Returns how often the name of the definition b stands in the expression of a, and means it.");
         TypeLoom loom = check.compiled("def a = 1;"
                 + " def b = (fun a -> a) a;"
                 + " def c = let a = a in a + a;"
@@ -118,6 +123,7 @@ public final class MeasureTest {
     }
 
     private static void mean(Check check) {
+        check.holds("Returns the mean of the parts of the types of all definitions; 0 if there are none.");
         isMean(check, "def x = 1;", 1.0);
         isMean(check, "def x = 1; def y = fun z -> z;", 2.0);
         isMean(check, "def x = 1; def y = 2; def z = (1, 2);", 5.0 / 3);

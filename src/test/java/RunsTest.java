@@ -15,6 +15,7 @@ public final class RunsTest {
 
     /** An error in the midst of a definition or item leaves no name bound. */
     private static void errorsLeaveNoNames(Check check) {
+        check.holds("Compiles the tape as a program. The program that was there is gone in any case.");
         TypeLoom loom = new TypeLoom();
         check.same("an error in x", Check.compile(loom, "def x = 1 + true;"), 5);
         check.questionError(loom, 2, "@x");
@@ -35,6 +36,7 @@ public final class RunsTest {
     }
 
     private static void programsLeaveNothing(Check check) {
+        check.holds("Compiles the tape as a program. The program that was there is gone in any case.");
         TypeLoom loom = check.compiled("type t 'a 'b = A 'a | B 'b; type u 'a = C; def x = A 1; def y = x;");
         check.same("the same names", Check.compile(loom, "type t = A; type u = B (t) u; def x : t = A; def z = x;"), 0);
         check.same("x", Check.written(loom, 0), "t");
@@ -50,6 +52,9 @@ public final class RunsTest {
 
     /** A type of many parts is used as often as the tokens allow. */
     private static void manyTypes(Check check) {
+        check.holds("Two types fit, if what is unknown in them can be made known, so that both are the same; it is"
+                + " known then in all that was found so far; an unknown type does not fit a type in which it stands"
+                + " itself (but itself).");
         String form = "int -> ".repeat(40) + "int";
         TypeLoom loom = check.compiled("type t = K (" + form + "); def f : " + form + " = f; " + PRELUDE);
         check.answer(loom, "fst (1, (fun" + " x".repeat(140) + " -> 1)" + " f".repeat(140) + ")", "int");
@@ -65,6 +70,8 @@ public final class RunsTest {
     }
 
     private static void wideAndDeep(Check check) {
+        check.holds("Returns 0, or the error, 1, 2, 5, 6, 7 or 9 (9 at its first token, if the type would need more"
+                + " than 400 bytes).");
         String wide = "f";
         for (int n = 0; n < 6; n++) {
             wide = "(" + wide + "," + wide + ")";
@@ -81,6 +88,9 @@ public final class RunsTest {
 
     /** A name that a fun or choice binds can have a type of very many parts. */
     private static void doubled(Check check) {
+        check.holds("Two types fit, if what is unknown in them can be made known, so that both are the same; it is"
+                + " known then in all that was found so far; an unknown type does not fit a type in which it stands"
+                + " itself (but itself).");
         StringBuilder text = new StringBuilder("fun a -> ");
         for (char name = 'a'; name < 'k'; name++) {
             char next = (char) (name + 1);
@@ -104,6 +114,8 @@ public final class RunsTest {
     }
 
     private static void manyCalls(Check check) {
+        check.holds("An object is used for at most 512 calls after it has been made; what later calls answer is"
+                + " free.");
         TypeLoom loom = new TypeLoom();
         String form = "int -> ".repeat(20) + "int";
         // Some forty calls a round: the document tells nothing of an object behind its 512th call.
@@ -120,6 +132,7 @@ public final class RunsTest {
     }
 
     private static void measuresInAnyOrder(Check check) {
+        check.holds("0 the parts of its type, 1 how many different marks stand in it, 2 its order:");
         TypeLoom loom = check.compiled("def a = 1; def b = fun x -> x; def c = fun f x y -> f (x, y);");
         int[][] due = {{1, 0, 0}, {3, 1, 1}, {11, 3, 2}};
         for (int what = 2; what >= 0; what--) {
@@ -134,6 +147,7 @@ public final class RunsTest {
     }
 
     private static void mostOfEverything(Check check) {
+        check.holds("Returns how many there are (0 to 2: 0 without a program).");
         StringBuilder text = new StringBuilder();
         for (int n = 0; n < 6; n++) {
             text.append("type t").append(n).append("=");

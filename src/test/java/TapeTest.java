@@ -12,6 +12,7 @@ public final class TapeTest {
     }
 
     private static void newObject(Check check) {
+        check.holds("Creates a checker without a program, with an empty tape and an empty paper.");
         TypeLoom loom = new TypeLoom();
         for (int what = 0; what <= 4; what++) {
             check.same("count of a new object " + what, loom.count(what), 0);
@@ -27,6 +28,7 @@ public final class TapeTest {
     }
 
     private static void feedAppends(Check check) {
+        check.holds("Appends twenty bytes to the tape: the four bytes of each number, the highest one first.");
         TypeLoom loom = new TypeLoom();
         check.same("first feed", loom.feed(0, 0, 0, 0, 0), 20);
         check.same("second feed", loom.feed(-1, Integer.MIN_VALUE, Integer.MAX_VALUE, 1, 2), 40);
@@ -35,6 +37,7 @@ public final class TapeTest {
     }
 
     private static void feedRefuses(Check check) {
+        check.holds("Throws `IllegalStateException` if there would be more than 1200");
         TypeLoom loom = new TypeLoom();
         for (int n = 1; n <= 60; n++) {
             check.same("feed " + n, loom.feed(0x20202020, 0x20202020, 0x20202020, 0x20202020, 0x20202020), 20 * n);
@@ -52,6 +55,7 @@ public final class TapeTest {
     }
 
     private static void trimShortens(Check check) {
+        check.holds("Throws `IllegalArgumentException` if n is not 0 to the number of bytes of the tape");
         TypeLoom loom = new TypeLoom();
         check.same("trim of nothing", loom.trim(0), 0);
         check.throwsThis("trim(1) of nothing", IllegalArgumentException.class, () -> loom.trim(1));
@@ -69,6 +73,7 @@ public final class TapeTest {
     }
 
     private static void bytesStandInOrder(Check check) {
+        check.holds("Appends twenty bytes to the tape: the four bytes of each number, the highest one first.");
         TypeLoom loom = new TypeLoom();
         loom.feed(0x66756e20, 0x61206220, 0x6320642d, 0x3e286120, 0x312c6220); // fun a b c d->(a 1,b
         loom.feed(0x322c6329, 0x20202020, 0x20202020, 0x20202020, 0x20202020); // 2,c)
@@ -84,6 +89,8 @@ public final class TapeTest {
     }
 
     private static void tapeIsEmptyBehind(Check check) {
+        check.holds("The tape is a row of at most 1200 bytes, at first empty, which feed and trim fill; compile and"
+                + " ask read it, and it is empty behind each of these.");
         TypeLoom loom = new TypeLoom();
         Check.put(loom, "def x = 1;");
         loom.compile();

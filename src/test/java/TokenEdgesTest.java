@@ -1,6 +1,7 @@
 /** Each sentence on the tokens of a text that names an edge: which bytes, how many, where the error stands. */
 public final class TokenEdgesTest {
-    private static final String WORD = "A word: a letter a to z, followed by letters a to z and digits, at most 8 bytes in all.";
+    private static final String WORD =
+            "A word: a letter a to z, followed by letters a to z and digits, at most 8 bytes in all.";
     private static final String CAPITAL = "A capital: a letter A to Z, followed by letters a to z and digits, at most 8 bytes.";
     private static final String LONGEST = "The longest possible token is always read.";
     private static final String KEYWORDS = "The keywords are: type def let in fun if then else case of end true false.";

@@ -14,6 +14,7 @@ public final class TypesTest {
     }
 
     private static void simpleExpressions(Check check) {
+        check.holds("The type of an expression is found so, part by part; parts stand in this order:");
         check.typeOfLast("def x = 0;", "int");
         check.typeOfLast("def x = true;", "bool");
         check.typeOfLast("def x = false;", "bool");
@@ -36,6 +37,7 @@ public final class TypesTest {
     }
 
     private static void groups(Check check) {
+        check.holds("Operators of one level, and calls, group from the left.");
         check.typeOfLast("def x = fun f y -> f y 1 true;", "('a -> int -> bool -> 'b) -> 'a -> 'b");
         check.typeOfLast("def x = fun f y -> f (y 1) = 1;", "('a -> int) -> (int -> 'a) -> bool");
         check.typeOfLast("def x = fun f -> f 1 * f 2 + f 3 < f 4;", "(int -> int) -> bool");
@@ -46,6 +48,9 @@ public final class TypesTest {
     }
 
     private static void names(Check check) {
+        check.holds("name: that of the nearest let, fun or choice around that binds it (of a fun the last one with"
+                + " this name), otherwise that of the definition (its own, or one ahead); what is general in it is"
+                + " unknown anew; Error 2 (at the name): there is none (definitions behind are not known).");
         check.typeOfLast("def x = fun x -> (x, 1);", "'a -> 'a * int");
         check.typeOfLast("def x = fun a a -> if a then 1 else 2;", "'a -> bool -> int");
         check.typeOfLast("def x = fun a -> (fun a -> a + 1) (if a then 1 else 2);", "bool -> int");
@@ -62,6 +67,8 @@ public final class TypesTest {
     }
 
     private static void general(Check check) {
+        check.holds("then that of f, with x, in which all is general that is unknown and stands in no type of a name"
+                + " that is bound around the let by a fun or a choice (nor in that of the definition's own name).");
         check.typeOfLast("def id = fun x -> x; def x = (id 1, id true);", "int * bool");
         check.typeOfLast("def id = fun x -> x; def x = id id;", "'a -> 'a");
         check.typeOfLast("def x = let id = fun y -> y in (id 1, id true);", "int * bool");
@@ -82,6 +89,8 @@ public final class TypesTest {
     }
 
     private static void recursion(Check check) {
+        check.holds("Then the type of its expression is found, where its own name has an unknown type, the same one"
+                + " in all of it; Error 5 (at the first token of the expression): both do not fit.");
         check.typeOfLast("def f = fun x -> if x < 1 then 0 else f (x - 1);", "int -> int");
         check.typeOfLast("def len = fun l -> case l of Nil -> 0 | Cons h t -> 1 + len t end;", "list 'a -> int");
         check.typeOfLast("def map = fun f l -> case l of Nil -> Nil | Cons h t -> Cons (f h) (map f t) end;",
@@ -93,6 +102,9 @@ public final class TypesTest {
     }
 
     private static void choices(Check check) {
+        check.holds("its result, with all marks unknown anew, has to fit that of e, Error 5 at it; then its"
+                + " expression is found, where the names have the types of the parts (of one name twice the last"
+                + " one); it has to fit that of the first choice, Error 5 at it.");
         check.typeOfLast("type o 'a = N | S 'a; def f = fun x -> case x of S y -> y | N -> 0 end;", "o int -> int");
         check.typeOfLast("type o 'a = N | S 'a; def f = fun x -> case x of S y -> y end;", "o 'a -> 'a");
         check.typeOfLast("type e 'a 'b = L 'a | R 'b; def f = fun x -> case x of L y -> R y | R y -> L y end;",
@@ -106,6 +118,8 @@ public final class TypesTest {
     }
 
     private static void forms(Check check) {
+        check.holds("The type of the definition is the form, if it has one, otherwise that which was found; what is"
+                + " unknown in it is general: it can be another type wherever the name is used behind it.");
         check.typeOfLast("def x : int = 1;", "int");
         check.typeOfLast("def f : 'q -> 'p -> 'q = fun x y -> x;", "'a -> 'b -> 'a");
         check.typeOfLast("def f : int -> int = fun x -> x; def y = f;", "int -> int");
@@ -118,6 +132,8 @@ public final class TypesTest {
     }
 
     private static void constructors(Check check) {
+        check.holds("The constructor has the type of a function from its parts, one after the other, to the name"
+                + " with its marks.");
         String types = "type t 'a 'b = A 'a (t 'b 'a) | B; type u = C (t int bool) u | D;";
         check.typeOfLast(types + "def x = A;", "'a -> t 'b 'a -> t 'a 'b");
         check.typeOfLast(types + "def x = A 1 B;", "t int 'a");

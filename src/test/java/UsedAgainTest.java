@@ -34,7 +34,8 @@ public final class UsedAgainTest {
         "def x=1;",
     };
     private static final String[] QUESTIONS = {"1", "x", "id id", "fst (1,2)", "case 1", "let a=1 in a 1", "A", "(",
-        "fun a b->a", "case x of Nil->1|Cons a b->a end", "fun" + " y".repeat(67) + "->1", "let a=a in a", "#"};
+        "fun a b->a", "case x of Nil->1|Cons a b->a end", "fun" + " y".repeat(67) + "->1", "let a=a in a", "#",
+        "let f=fun a->a in (f 1,f true)", "let p=Nil in (Cons 1 p,Cons true p)", "fun y->let f=fun a->(a,y) in (f 1,f true)"};
 
     public static void main(String[] args) {
         Check check = new Check("UsedAgainTest");
@@ -45,6 +46,7 @@ public final class UsedAgainTest {
         sameAgain(check);
         manyAnswers(check);
         growing(check);
+        errorsInTheMidst(check);
         check.end();
     }
 
@@ -163,19 +165,46 @@ public final class UsedAgainTest {
         check.same("meet", used.meet(3, 3), "'a -> 'a * 'a".length());
     }
 
-    /** Types that need much room, one program behind the other. */
+    /** Types that need much room, one program behind the other, and one question behind the other. */
     private static void growing(Check check) {
         check.holds(GONE);
+        String wide = "def f=fun" + " y".repeat(50) + "->1;";
+        String text = wide + "def g=(fun" + " x".repeat(110) + "->1)" + " f".repeat(110) + ";";
         TypeLoom used = new TypeLoom();
-        String wide = "fun" + " y".repeat(50) + "->1";
-        for (int n = 1; n < 8; n++) {
-            String text = "def f=" + wide + ";def g=(fun" + " x".repeat(10 * n) + "->1)" + " f".repeat(10 * n) + ";";
-            check.same("compile " + n, Check.compile(used, text), 0);
-            check.same("ask " + n, Check.ask(used, "fst (1,(f,(f,f)))"), 0);
-            check.same("write " + n, used.write(1), 3);
-            check.same("parts " + n, used.measure(0, 0), 101);
-            check.same("an error " + n, Check.compile(used, text + "def h=z;"), 2);
-            check.same("without a program " + n, used.count(2), 0);
+        for (int n = 0; n < 13; n++) {
+            check.same("compile " + n, Check.compile(used, n % 2 == 0 ? text : text + "def h=z;"), n % 2 == 0 ? 0 : 2);
+        }
+        check.same("parts", used.measure(0, 0), 101);
+        check.same("the last type", Check.written(used, 1), "int");
+        TypeLoom asked = new TypeLoom();
+        Check.compile(asked, wide + "def id=fun x->x;");
+        String question = "(fun" + " x".repeat(110) + "->true)" + " f".repeat(110);
+        for (int n = 0; n < 13; n++) {
+            check.same("ask " + n, Check.ask(asked, question), 0);
+            check.same("its bytes " + n, asked.count(4), 4);
+        }
+        check.same("the parts of f", asked.measure(0, 0), 101);
+        check.same("the type of id", Check.written(asked, 1), "'a -> 'a");
+    }
+
+    /** An error in the midst of forms, calls or names leaves nothing that fills up. */
+    private static void errorsInTheMidst(Check check) {
+        check.holds(GONE);
+        String[] wrong = {"def x:" + "int->".repeat(100) + "u=1;", "type t=A (" + "int->".repeat(100) + "u);",
+            "def x=fun" + " y".repeat(200) + "->z;", "def x=case Nil of Cons a b->(((a,b),(b,a)),c) end;",
+            "def x=let a=1 in let b=2 in let c=3 in d;", "def x=(1,(2,(3,(4,(5,6))))) 7;"};
+        for (String text : wrong) {
+            TypeLoom used = new TypeLoom();
+            for (int n = 0; n < 10; n++) {
+                check.isTrue("an error in " + text, Check.compile(used, text) != 0);
+            }
+            check.answer(used, "let f=fun a->a in (f 1,f true)", "int * bool");
+            check.same("compile behind it", Check.compile(used, FULL), 0);
+            TypeLoom fresh = check.compiled(FULL);
+            alike(check, "a program behind ten times " + text, used, fresh);
+            check.same("a form", Check.compile(used, "def x:(int->bool)->list int*(int->int)=x;"), 0);
+            check.same("its type", Check.written(used, 0), "(int -> bool) -> list int * (int -> int)");
+            check.answer(used, "fun a b->let f=fun c->(a,c) in (f 1,(f b,b))", "'a -> 'b -> ('a * int) * (('a * 'b) * 'b)");
         }
     }
 }

@@ -28,6 +28,9 @@ public final class WriteAtTest {
     }
 
     private static void shortestExpression(Check check) {
+        check.holds("Writes the type that was found in the end for the shortest expression of the program to which a"
+                + " place belongs (all bytes from that of its first token to that of its last one belong to it),"
+                + " likewise.");
         places(check,
                 "def x = fun y -> (y, 1 < 2);",
                 "........AAAAAAAAABCBBDEEEDB.",
@@ -51,6 +54,7 @@ public final class WriteAtTest {
     }
 
     private static void placesWithout(Check check) {
+        check.holds("Throws `IndexOutOfBoundsException` if no expression is there, or there is no program");
         TypeLoom loom = check.compiled("def abc : int -> int = fun y -> y ;");
         int[] without = {0, 2, 3, 4, 6, 8, 10, 16, 21, 22, 33, 34, 35, 36, 1200, -1, -2,
             Integer.MAX_VALUE, Integer.MIN_VALUE};
@@ -65,6 +69,9 @@ public final class WriteAtTest {
     }
 
     private static void typesInTheEnd(Check check) {
+        check.holds("Writes the type that was found in the end for the shortest expression of the program to which a"
+                + " place belongs (all bytes from that of its first token to that of its last one belong to it),"
+                + " likewise.");
         // What is behind a place makes known what stands there.
         at(check, "def f = fun y -> (y, y + 1);", 18, "int");
         at(check, "def f = fun y -> (y, y + 1);", 8, "int -> int * int");
@@ -92,6 +99,7 @@ public final class WriteAtTest {
     }
 
     private static void groupsFromTheLeft(Check check) {
+        check.holds("Operators of one level, and calls, group from the left.");
         places(check,
                 "def x = fun f -> f 1 true + 2 * 3 - 4;",
                 "........AAAAAAAAABCDDEEEEDDDDDDDDDDDD.",
@@ -99,6 +107,7 @@ public final class WriteAtTest {
     }
 
     private static void tooLong(Check check) {
+        check.holds("Throws `IllegalStateException` if there would be more than 400");
         String text = "def x = fst (1, fun" + " y".repeat(70) + " -> y); def z = true;";
         TypeLoom loom = check.compiled(text);
         loom.write(1);
@@ -109,6 +118,9 @@ public final class WriteAtTest {
     }
 
     private static void staysBehindAsk(Check check) {
+        check.holds("Writes the type that was found in the end for the shortest expression of the program to which a"
+                + " place belongs (all bytes from that of its first token to that of its last one belong to it),"
+                + " likewise.");
         TypeLoom loom = check.compiled("def id = fun y -> y;");
         check.answer(loom, "id 1", "int");
         check.same("ask with an error", Check.ask(loom, "id 1 2 + true"), 5);

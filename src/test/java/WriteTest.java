@@ -12,6 +12,8 @@ public final class WriteTest {
     }
 
     private static void brackets(Check check) {
+        check.holds("In ( and ) stand: a pair or function as the left or right part of a pair; a function as the"
+                + " left part of a function; a pair, a function, or a name with parts as a part of a name.");
         written(check, "int * int", "int * int");
         written(check, "(int * int) * int", "(int * int) * int");
         written(check, "int * (int * int)", "int * (int * int)");
@@ -38,6 +40,8 @@ public final class WriteTest {
     }
 
     private static void letters(Check check) {
+        check.holds("A type is written: int, bool, marks as 'a, 'b and so on, in the order in which they stand in it"
+                + " (what is unknown or general, and the marks of a form; behind 'z comes 'a again);");
         check.typeOfLast("def x = fun a b c -> (c, (b, a));", "'a -> 'b -> 'c -> 'c * ('b * 'a)");
         check.typeOfLast("def x : 'c -> 'b -> 'c = fun y z -> y;", "'a -> 'b -> 'a");
         StringBuilder due = new StringBuilder();
@@ -50,6 +54,7 @@ public final class WriteTest {
     }
 
     private static void writesDefinitions(Check check) {
+        check.holds("Writes the type of a definition on the paper, in the place of what was there.");
         TypeLoom loom = check.compiled("def a = 1; def b = true; def c = fun x -> x; def d = Nil;");
         check.same("write(0)", loom.write(0), 3);
         check.same("paper", Check.paper(loom), "int");
@@ -67,6 +72,7 @@ public final class WriteTest {
     }
 
     private static void writesConstructors(Check check) {
+        check.holds("Writes the type of a constructor, likewise.");
         TypeLoom loom = check.compiled("type t 'b 'a = A | B 'a 'b (t 'a 'b); def x = 1; type u = C (int -> bool) (int * u) (list u);");
         check.same("writeConstructor(0)", loom.writeConstructor(0), 7);
         check.same("A", Check.paper(loom), "t 'a 'b");
@@ -83,6 +89,7 @@ public final class WriteTest {
     }
 
     private static void fourHundredBytes(Check check) {
+        check.holds("Throws `IllegalStateException` if there would be more than 400");
         String many = "bool -> ".repeat(48);
         TypeLoom loom = check.compiled("type t = K (" + many + "list (list bool)) | L (int * int); def x : "
                 + many + "list (list bool) = x;");
@@ -101,6 +108,7 @@ public final class WriteTest {
     }
 
     private static void bytes(Check check) {
+        check.holds("Returns the byte there.");
         TypeLoom loom = check.compiled("def x = fun y -> (y, 1);");
         check.throwsThis("byteAt of an empty paper", IndexOutOfBoundsException.class, () -> loom.byteAt(0));
         loom.write(0);

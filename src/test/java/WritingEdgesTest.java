@@ -17,6 +17,7 @@ public final class WritingEdgesTest {
         blanks(check);
         brackets(check);
         fourHundred(check);
+        fourHundredOfEachPart(check);
         fourHundredOfAConstructor(check);
         fourHundredAtAPlace(check);
         fourHundredOfAMeeting(check);
@@ -135,6 +136,38 @@ public final class WritingEdgesTest {
                 check.same("the paper stays", Check.paper(loom), "int * int");
             }
         }
+    }
+
+    /** Each kind of part stands eight times in a type of 399, 400 and 401 bytes. */
+    private static void fourHundredOfEachPart(Check check) {
+        check.holds(TOO_LONG);
+        String[] parts = {"int", "bool", "'a", "u", "longname", "list 'a", "o bool", "p int u", "q u (o u) bool",
+            "list (list int)", "int * bool", "int * (u * int)", "(u * int) * u", "(int -> int)", "(u -> u) * int",
+            "u * (u -> 'a)", "o (u * u)", "o (u -> u)", "((u -> u) -> u)", "p (o u) (o u)"};
+        for (String part : parts) {
+            for (int size : new int[] {399, 400, 401}) {
+                String form = filled((part + " -> ").repeat(8), size);
+                TypeLoom loom = check.compiled(TYPES + "type longname=L;def z=1;def x:" + form + "=x;");
+                loom.write(0);
+                if (size <= 400) {
+                    check.same("write of " + form, loom.write(1), size);
+                    check.same("its paper", Check.paper(loom), form);
+                } else {
+                    check.tooLong("write of " + form, () -> loom.write(1));
+                    check.same("the paper stays", loom.count(4), 3);
+                }
+            }
+        }
+    }
+
+    /** Appends parts of a function to a text, up to so many bytes. */
+    private static String filled(String text, int bytes) {
+        String[] ends = {"u", "'a", "int", "bool", "u * u"};
+        int rest = bytes - text.length();
+        int longNames = (rest - 1) / 12;
+        int shortNames = (rest - 12 * longNames - 1) / 5;
+        int end = rest - 12 * longNames - 5 * shortNames;
+        return text + "longname -> ".repeat(longNames) + "u -> ".repeat(shortNames) + ends[end - 1];
     }
 
     /** The constructor has the type ( form ) -> name. */
