@@ -14,6 +14,7 @@ public final class AnswerEdgesTest {
         everyError(check);
         goneInAnyCase(check);
         places(check);
+        placesFromZero(check);
         counts(check);
         fullProgram(check);
         measures(check);
@@ -93,6 +94,22 @@ public final class AnswerEdgesTest {
         check.same("errorAt", loom.errorAt(), -1);
         check.same("ask", Check.ask(loom, " ".repeat(1199) + "x"), 2);
         check.same("errorAt", loom.errorAt(), 1199);
+    }
+
+    private static void placesFromZero(Check check) {
+        check.holds("Positions are counted from 0, in bytes.");
+        check.programError(1, "@x=1;");
+        check.programError(1, " @x=1;");
+        check.programError(2, "def x=@y;");
+        check.questionError(new TypeLoom(), 2, "@y");
+        check.questionError(new TypeLoom(), 2, "\n\n@y");
+        TypeLoom loom = check.compiled("def x=1;");
+        check.noSuch("writeAt(5)", () -> loom.writeAt(5));
+        check.same("writeAt(6)", loom.writeAt(6), 3);
+        check.noSuch("writeAt(7)", () -> loom.writeAt(7));
+        check.same("byteAt(0)", loom.byteAt(0), 'i');
+        check.same("byteAt(2)", loom.byteAt(2), 't');
+        check.noSuch("byteAt(3)", () -> loom.byteAt(3));
     }
 
     private static void counts(Check check) {
