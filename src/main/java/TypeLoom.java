@@ -157,7 +157,16 @@ public final class TypeLoom {
         if (!known.hasDefinition(a) || !known.hasDefinition(b)) {
             throw new IndexOutOfBoundsException("there is no such definition");
         }
-        if (!putMeeting(a, b)) {
+        int one = types.copy(known.typeOfDefinition(a), false);
+        int other = types.copy(known.typeOfDefinition(b), false);
+        boolean written = true;
+        if (types.fits(one, other)) {
+            written = writer.put(one);
+        } else {
+            writer.wipe();
+        }
+        types.dropLoose();
+        if (!written) {
             throw new IllegalStateException("the type is too long for the paper");
         }
         return writer.size();
@@ -250,19 +259,6 @@ public final class TypeLoom {
             default:
                 return types.rankOf(type);
         }
-    }
-
-    private boolean putMeeting(int a, int b) {
-        int one = types.copy(known.typeOfDefinition(a), false);
-        int other = types.copy(known.typeOfDefinition(b), false);
-        boolean written = true;
-        if (types.fits(one, other)) {
-            written = writer.put(one);
-        } else {
-            writer.wipe();
-        }
-        types.dropLoose();
-        return written;
     }
 
     /** The first error of a text: its number and its position. */
@@ -1245,8 +1241,9 @@ public final class TypeLoom {
             return same && node >= frozen ? node : make(tag, first, second, third);
         }
 
+        /** The note of a part of a node that was gathered. */
         private int noteOfKid(int node, int which) {
-            int kid = kidOf(node, which);
+            int kid = find(kids[node * KIDS + which]);
             return kid == NONE ? 0 : notes[kid];
         }
 
