@@ -18,6 +18,7 @@ public final class SentencesTest {
         placesOfTheText(check);
         placesOnThePaper(check);
         pairsOfDefinitions(check);
+        firstException(check);
         checksums(check);
         check.end();
     }
@@ -170,6 +171,22 @@ public final class SentencesTest {
                 check.same("meet(" + a + ", " + b + ")", loom.meet(a, b), a == b ? Check.written(loom, a).length() : 0);
             }
         }
+    }
+
+    /** No such definition is told ahead of a type that is too long, where one of the two is. */
+    private static void firstException(Check check) {
+        check.holds("If several exceptions apply, the one that is named first is thrown.");
+        TypeLoom loom = check.compiled("type longname=A;def f:" + "longname->".repeat(50) + "longname=f;def x=f;");
+        check.tooLong("write(0)", () -> loom.write(0));
+        check.tooLong("meet(0, 1)", () -> loom.meet(0, 1));
+        for (int none : new int[] {-1, 2, Integer.MAX_VALUE, Integer.MIN_VALUE}) {
+            check.noSuch("write(" + none + ")", () -> loom.write(none));
+            check.noSuch("writeConstructor(" + none + ")", () -> loom.writeConstructor(none));
+            check.noSuch("writeAt(" + none + ")", () -> loom.writeAt(none));
+            check.noSuch("meet(0, " + none + ")", () -> loom.meet(0, none));
+            check.noSuch("meet(" + none + ", 0)", () -> loom.meet(none, 0));
+        }
+        check.same("the paper", loom.count(4), 0);
     }
 
     private static void checksums(Check check) {
